@@ -717,6 +717,11 @@ public final class HookOver {
             return hookAt[nextHook] - hookAt[h] - (ringAt[nextRing] - ringAt[r]);
         }
 
+        /** Whether a later HOOK can be the next one that is joined, at that RING; any can behind HOOK NONE. */
+        boolean canFollow(int h, int r, int nextHook, int nextRing) {
+            return h == NONE || nextRing > r && sagBetween(h, r, nextHook, nextRing) >= 0;
+        }
+
         int rightOneOut(int k, int d) {
             int found = 0;
             for (int h = 0; h < hooks; h++) {
@@ -1707,10 +1712,6 @@ public final class HookOver {
             }
         }
 
-        private static boolean canFollow(Window w, int h, int r, int g, int s) {
-            return h == NONE || s > r && w.sagBetween(h, r, g, s) >= 0;
-        }
-
         /** The RING of a HOOK in the k-th FULL one; only with k below how many there are. */
         int ringInFull(Window w, int k, int wanted) {
             int rest = k;
@@ -1720,7 +1721,7 @@ public final class HookOver {
             for (int h = 0; h <= wanted; h++) {
                 int found = NONE;
                 for (int r = lastRing + 1; r < w.rings && left > 0 && found == NONE; r++) {
-                    int here = canFollow(w, lastHook, lastRing, h, r) ? more[rowOf(h, r) + left - 1] : 0;
+                    int here = w.canFollow(lastHook, lastRing, h, r) ? more[rowOf(h, r) + left - 1] : 0;
                     if (rest < here) {
                         found = r;
                     } else {
@@ -1854,8 +1855,8 @@ public final class HookOver {
             return !w.isBroken(r) && w.isRight(h, r);
         }
 
-        private static boolean canFollow(Window w, int h, int r, int g, int s) {
-            return canStand(w, g, s) && (h == NONE || s > r && w.sagBetween(h, r, g, s) >= 0);
+        private static boolean canCome(Window w, int h, int r, int g, int s) {
+            return canStand(w, g, s) && w.canFollow(h, r, g, s);
         }
 
         private int worthOf(Hanging now, int h, int r) {
@@ -1869,7 +1870,7 @@ public final class HookOver {
             for (int g = h + 1; g < w.hooks; g++) {
                 int passed = joinedAhead[g] - joinedAhead[h + 1];
                 for (int s = r + 1; s < w.rings; s++) {
-                    if (canFollow(w, h, r, g, s)) {
+                    if (canCome(w, h, r, g, s)) {
                         best = Math.max(best, worthOf(now, g, s) - passed);
                     }
                 }
@@ -1883,7 +1884,7 @@ public final class HookOver {
             int lastRing = NONE;
             for (int h = 0; h < w.hooks; h++) {
                 for (int r = lastRing + 1; r < w.rings && rings[h] == NONE; r++) {
-                    if (canFollow(w, lastHook, lastRing, h, r) && worthOf(now, h, r) == rest) {
+                    if (canCome(w, lastHook, lastRing, h, r) && worthOf(now, h, r) == rest) {
                         rings[h] = r;
                     }
                 }
