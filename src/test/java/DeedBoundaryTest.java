@@ -154,6 +154,12 @@ public final class DeedBoundaryTest extends Bench {
         due("* of both", holds("( 0 - 999 * 999 ) * ( 999 * 999 ) = 0 - " + million, 0, 0), 1);
         due("- below 0", holds("hook - ring < 0", 0, 1), 1);
         due("= 0", holds("hook - ring = 0", 1, 1), 1);
+        due("not of what holds", holds("not 1 = 1", 0, 0), 0);
+        due("not of what doesn't", holds("not 1 = 2", 0, 0), 1);
+        due("six times not", holds("not not not not not not 1 = 1", 0, 0), 1);
+        due("five times not", holds("not not not not not 1 = 1", 0, 0), 0);
+        due("not of a whole", holds("not [ 1 = 1 and 1 = 2 ]", 0, 0), 1);
+        due("not of one UNIT alone", holds("not 1 = 2 and 1 = 2", 0, 0), 0);
         due("not <", holds("1 < 1", 0, 0), 0);
         due("not >", holds("1 > 1", 0, 0), 0);
     }
@@ -167,6 +173,7 @@ public final class DeedBoundaryTest extends Bench {
         due("cloth of the one ahead of the last", x.hook(1, 2), 30);
         due("cloth of the last", x.hook(2, 2), -1);
         due("joined, but not RIGHT", x.hook(0, 4), 0);
+        due("joined RIGHT", told("rail 1;cloth 1;join 1 1;").hook(1, 4), 1);
         due("not joined", x.hook(1, 4), 0);
         due("the last what", x.hook(2, 4), 0);
         due("what 5", x.hook(2, 5), -2);
@@ -211,6 +218,8 @@ public final class DeedBoundaryTest extends Bench {
         for (int what = 0; what <= 4; what++) {
             due("all are joined: " + what, x.sags(what), all[what]);
         }
+        due("the greatest is that of HOOK 0", told("rail 1 1;cloth 9 8;join 0 0;join 1 1;join 2 2;").sags(2), 8);
+        due("the greatest is the last one", told("rail 1 1;cloth 8 9;join 0 0;join 1 1;join 2 2;").sags(2), 8);
         due("what 5", x.sags(5), -2);
         due("what -1", x.sags(-1), -2);
         due("the least what", x.sags(Integer.MIN_VALUE), -2);
@@ -273,6 +282,17 @@ public final class DeedBoundaryTest extends Bench {
         x = told("rail 1;cloth 9;");
         due("SPREAD", x.spread(), 2);
         due("it is one", x.count(5), 1);
+        x.undo(1);
+        due("UNDONE", x.sags(0), 0);
+        x.join(1, 1);
+        x.unhook(1);
+        x.undo(1);
+        due("SPREAD by which one is", x.spread(), 1);
+        due("UNDONE", x.undo(1), 1);
+        due("HOOK 0", x.hook(0, 0), -1);
+        due("HOOK 1", x.hook(1, 0), 1);
+        x.undo(1);
+        x.spread();
         due("SPREAD by which none is", x.spread(), 0);
         due("it is none", x.count(5), 1);
         x.numbers(0, 0, 0);
@@ -381,6 +401,10 @@ public final class DeedBoundaryTest extends Bench {
         due("SECONDS are as before", x.count(3), 0);
         due("and joins", x.hook(0, 0), 0);
         due("and what can be UNDONE", x.count(5), 0);
+        x.unhook(0);
+        x.join(0, 0);
+        due("SECONDS of before are not these", x.judge(0, 2), 8);
+        x.undo(2);
         due("what 4", x.judge(0, 4), -2);
         due("what -1", x.judge(0, -1), -2);
         due("TRAY 4", x.judge(4, 0), -2);
@@ -453,7 +477,10 @@ public final class DeedBoundaryTest extends Bench {
         due("no HOOKS", told("rail 1;").day(1, 1), -5);
         due("no RINGS", told("cloth 1;").day(1, 60), -5);
         due("neither", new HookOver().day(1, 1), -5);
-        due("both", told("rail 1;cloth 9;").day(1, 1), 1);
+        x = told("rail 1;cloth 9;");
+        due("both", x.day(1, 1), 1);
+        due("one is enough to be UNDONE", x.undo(1), 0);
+        due("it is as before", x.sags(0), 0);
     }
 
     private static void undoing() {

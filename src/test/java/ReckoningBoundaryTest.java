@@ -38,6 +38,26 @@ public final class ReckoningBoundaryTest extends Bench {
             due("joinings(" + n + ") of nothing", new HookOver().joinings(n), -3);
         }
 
+        // The same object with other windows: each is reckoned for itself.
+        x.image(0);
+        tell(x, TIGHT);
+        due("another window", x.joinings(2), 0);
+        due("another window", x.full(), 1);
+        due("another window", x.evenest(0), 0);
+        x.image(1);
+        due("the first one again", x.restore(0), 0);
+        due("the first one again", x.joinings(2), 66 * 66);
+        due("the first one again", x.evenest(0), 98);
+        due("the first one again", x.evenest(21), 11);
+        due("the second one again", x.restore(1), 0);
+        due("the second one again", x.evenest(21), -1);
+        due("the second one again", x.joinings(12), 0);
+        tell(x, "");
+        due("none", x.joinings(1), 0);
+        due("none", x.full(), 0);
+        due("none", x.evenest(1), 0);
+        x.restore(0);
+
         says("How many are joined in FULL ones.");
         due("all 12", x.full(), 12);
         due("one", told(TIGHT).full(), 1);
@@ -109,6 +129,30 @@ public final class ReckoningBoundaryTest extends Bench {
         x.unhook(1);
         due("of like ones the first", x.mended(10), 0);
         due("of like ones the first", x.mended(11), -1);
+        x = told("rail 1 1 1;cloth 9 9;law:1=1;join 0 1;join 2 3;");
+        due("both stay", x.mended(1), 0);
+        due("HOOK 1 between them", x.mended(11), 2);
+        x = told("rail 1 1 1;cloth 9 9;law:hook=2;join 0 0;join 1 1;join 2 2;");
+        due("only HOOK 2 can be RIGHT", x.mended(0), 1);
+        due("others are unhooked", x.mended(1), 2);
+        due("it stays", x.mended(12), 2);
+        due("HOOK 0", x.mended(10), -1);
+        x = told("rail 1;cloth 9;law:hook=0 and ring=1 or hook=1 and ring=0;join 1 0;");
+        due("one of two that would cross: that which is", x.mended(11), 0);
+        due("HOOK 0", x.mended(10), -1);
+        due("none is unhooked", x.mended(1), 0);
+        x.unhook(1);
+        due("else the first", x.mended(10), 1);
+        due("HOOK 1", x.mended(11), -1);
+        x = told(LOOSE + "law:hook<11 and ring=hook+1 or hook=11 and ring<4;join 11 3;");
+        due("eleven against one", x.mended(0), 11);
+        due("one is unhooked", x.mended(1), 1);
+        x = told("rail 1 1 1 1;cloth 9 9 9;law:ring=hook or ring=hook+1;join 0 1;join 1 2;join 3 4;");
+        due("three stay", x.mended(1), 0);
+        due("HOOK 2 between them", x.mended(12), 3);
+        x = told("rail 1 1 1 1;cloth 9 9 9;law:ring=hook or ring=hook+1;join 0 1;join 1 2;join 2 3;join 3 4;");
+        due("all stay", x.mended(1), 0);
+        due("though another is the first", x.mended(10), 1);
         due("a SAG of 0 can be", told("rail 5 5;cloth 5;").mended(0), 2);
         due("a SAG of -1 can't", told("rail 6 5;cloth 5;").mended(0), 1);
         due("a broken RING", told("rail 5 5;cloth 5;broken 1;").mended(0), 1);
@@ -159,6 +203,13 @@ public final class ReckoningBoundaryTest extends Bench {
         due("so the last RING", x.evenest(12), 3);
         x = told("rail 8 8 8;cloth 10 10;");
         due("two are alike: the first", x.evenest(10), 0);
+
+        x = told("rail 5 9;cloth 5 9;");
+        due("SAGS of 0", x.evenest(0), 0);
+        due("all are joined", x.evenest(12), 2);
+        x = told("rail 5 9 9;cloth 5 9;");
+        due("SAGS of 0, so the later one isn't the evenest", x.evenest(1), 0);
+        due("HOOK 2", x.evenest(12), 2);
 
         says("EVENEST, what 0: the greatest SAG, 1: sum of squares, 10 + h: the RING of HOOK h (NONE). -2.");
         x = told(LOOSE);
@@ -286,10 +337,23 @@ public final class ReckoningBoundaryTest extends Bench {
         due("one beyond REACH: the CHAIR reaches all then", x.rounds(0, 0), 3 + 3 + 1);
         due("so it may be the first", x.rounds(0, 10), 10);
         due("SECONDS of now don't count", x.count(3), 0);
+        x = told(LOOSE + "chair 1 3 1;");
+        fill(x, 0, 0, 6, 2, 4);
+        // By RINGS 4 2 6: 7 + 1 + 6; by 2 6 4: 5 + 8 + 1; by others more. 2 6 4 are places 1 0 2, the others 2 1 0.
+        due("two ways are least", x.rounds(0, 0), 14);
+        due("RING 2 is first", x.rounds(0, 10), 2);
+        due("then 6", x.rounds(0, 11), 6);
+        due("then 4", x.rounds(0, 12), 4);
+        x.join(5, 11);
+        // The CHAIR is at RING 10: by 4 6 2: 9 + 1 + 6; by 6 2 4: 7 + 8 + 1; by others more.
+        due("from the other side", x.rounds(0, 0), 16);
+        due("RING 6 is first", x.rounds(0, 10), 6);
+        due("then 2", x.rounds(0, 11), 2);
+        due("then 4", x.rounds(0, 12), 4);
 
         says("ROUND, what 0: SECONDS, 10 + k: the k-th RING (NONE: not so many). -2: the TRAY, what (10 to 17); -6; -4: not 1"
             + " to 8; -3: one is no RING, two are alike.");
-        due("the third", x.rounds(0, 12), 1);
+        due("the third", x.rounds(0, 12), 4);
         due("the fourth of three", x.rounds(0, 13), -1);
         due("the eighth of three", x.rounds(0, 17), -1);
         for (int what : new int[] {-1, 1, 9, 18, LEAST, GREATEST}) {
@@ -561,6 +625,12 @@ public final class ReckoningBoundaryTest extends Bench {
         seenBy(x, -3, -1);
         due("-3", x.sure(2, 1), -3);
         due("no HOOKS", told("rail 1;").sure(2, 0), -2);
+        x = told("rail 5 5;cloth 10;");
+        fill(x, 0, 0, 5, -2);
+        due("without seen() ahead of it", x.sure(0, 1), 1);
+        tell(x, "rail 5 5;cloth 1;");
+        fill(x, 0, 0, -2, -2);
+        due("another window", x.sure(0, 1), -8);
         x = told("rail 5;cloth 3 4;");
         seenBy(x, -1);
         due("at RING 0 in all", x.sure(2, 0), 0);

@@ -401,6 +401,30 @@ public final class TextBoundaryTest extends Bench {
         due("the CHAIR", x.count(4), 0);
         due("no join", x.sags(0), 0);
         due("REACH is as if not told", x.count(6), 1);
+        // Three windows, for what two of them might share.
+        x = told("rail 9 9 9;cloth 9 9;law:1=2;hook 0 mark 9;ring 0 mark 9;broken 0;chair 0 3 1;pleat 3;slip 9 9;");
+        fill(x, 0, 0, 12 + 2, 24 + 3);
+        due("perform()", x.perform(0), 2);
+        fill(x, 0, 0);
+        x.numbers(0, 2, 2);
+        x.write(0, 0, 202);
+        x.write(0, 1, 201);
+        due("judge()", x.judge(0, 0), -1);
+        for (int time = 1; time <= 2; time++) {
+            due("a window without all that", tell(x, "rail 9 9 9;cloth 9 9;"), 2);
+            due("MARK of HOOK 0", x.hook(0, 1), 0);
+            due("MARK of RING 0", x.ring(0, 1), 0);
+            due("RING 0 is whole", x.ring(0, 3), 0);
+            due("none is broken", x.count(2), 0);
+            due("no law", x.belongs(1, 1), 1);
+            due("no slip, 10 for a LOOK", x.average(1, 0), 3 * 12);
+            due("no slip", x.average(1, 1), 1);
+            due("no pleat", x.pleats(0), -5);
+            due("the CHAIR", x.count(4), 0);
+            due("SECONDS", x.count(3), 0);
+            due("no join", x.sags(0), 0);
+            due("no join", x.ring(3, 0), -1);
+        }
         due("nothing of THE TAPE", x.window(1), -3);
         due("n = 0", x.window(0), 0);
         due("is a text without LINES", x.count(1), 0);

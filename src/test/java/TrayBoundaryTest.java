@@ -205,6 +205,11 @@ public final class TrayBoundaryTest extends Bench {
         due("HOOK 0", x.hook(0, 0), 1);
         due("HOOK 1", x.hook(1, 0), 2);
         due("HOOK 2", x.hook(2, 0), -1);
+        due("cloth", x.hook(0, 2), 20);
+        due("cloth", x.hook(1, 2), 21);
+        due("SAG", x.hook(0, 3), 12);
+        due("GAP", x.ring(0, 2), 7);
+        due("GAP", x.ring(2, 2), 9);
         due("MARK of HOOK 2", x.hook(2, 1), 3);
         due("MARK of RING 3", x.ring(3, 1), 4);
         due("RING 0", x.ring(0, 3), 1);
@@ -219,7 +224,11 @@ public final class TrayBoundaryTest extends Bench {
         due("HOOK 11", x.hook(11, 0), 11);
         due("pleat", x.count(9), 2);
         x.unhook(11);
+        x.join(11, 10);
+        due("two calls can be UNDONE", x.count(5), 2);
         due("again", x.restore(1), 0);
+        due("none can be", x.undo(1), -3);
+        due("none can be", x.count(5), 0);
         due("HOOK 11", x.hook(11, 0), 11);
         due("SECONDS", x.count(3), 0);
         x.unhook(11);
