@@ -134,6 +134,10 @@ public final class DeedBoundaryTest extends Bench {
         due("no MARKS", x.belongs(0, 1), 0);
         x = told("law : hooks = 12 and rings = 12;" + LARGE);
         due("12 of both, told behind the law", x.belongs(11, 11), 1);
+        x = told(LARGE + "law : hm = 9 and rm = 8;hook 11 mark 9;ring 11 mark 8;");
+        due("MARKS of the twelfth of both", x.belongs(11, 11), 1);
+        due("MARK of the eleventh HOOK", x.belongs(10, 11), 0);
+        due("MARK of the eleventh RING", x.belongs(11, 10), 0);
 
         says("each + - * kept from -1,000,000 to 1,000,000");
         String million = "100 * 100 * 100";
@@ -162,6 +166,19 @@ public final class DeedBoundaryTest extends Bench {
         due("not of one UNIT alone", holds("not 1 = 2 and 1 = 2", 0, 0), 0);
         due("not <", holds("1 < 1", 0, 0), 0);
         due("not >", holds("1 > 1", 0, 0), 0);
+        for (String sign : new String[] {"=", "<", ">"}) {
+            String yes = sign.equals("=") ? "5 = 5" : sign.equals("<") ? "4 < 5" : "5 > 4";
+            String no = sign.equals("=") ? "5 = 4" : "5 " + sign + " 5";
+            due(yes, holds(yes, 0, 0), 1);
+            due(no, holds(no, 0, 0), 0);
+            due("not " + yes, holds("not " + yes, 0, 0), 0);
+            due("not " + no, holds("not " + no, 0, 0), 1);
+            due(yes + " and", holds(yes + " and 1 = 1", 0, 0), 1);
+            due("and " + yes, holds("1 = 1 and " + yes, 0, 0), 1);
+            due("or " + yes, holds("1 = 2 or " + yes, 0, 0), 1);
+            due(no + " and", holds(no + " and 1 = 1", 0, 0), 0);
+            due("or " + no, holds("1 = 2 or " + no, 0, 0), 0);
+        }
     }
 
     private static void askedOfHooks() {

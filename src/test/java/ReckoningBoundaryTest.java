@@ -103,6 +103,21 @@ public final class ReckoningBoundaryTest extends Bench {
             due("one HOOK at a time: " + k, x.fullAt(k, k / 12), k % 12);
         }
         due("144", x.fullAt(144, 0), -5);
+        // HOOKS 0 and 1 are too near to one another: 0 and 2, then 1 and 2.
+        x = told("rail 5;cloth 4 5;");
+        int[][] tight = {{0, -1, 1}, {-1, 0, 1}};
+        for (int k = 0; k < 2; k++) {
+            for (int h = 0; h < 3; h++) {
+                due("a SAG below 0 can't be: " + k + ", " + h, x.fullAt(k, h), tight[k][h]);
+            }
+        }
+        due("no more", x.fullAt(2, 0), -5);
+        // RINGS 0 and 2 are too far from one another.
+        x = told("rail 5 5;cloth 5;");
+        due("a SAG of 0", x.fullAt(0, 1), 1);
+        due("the other one", x.fullAt(1, 1), 2);
+        due("it begins at RING 1", x.fullAt(1, 0), 1);
+        due("no more", x.fullAt(2, 1), -5);
         // 924 ways to join 6 of 12 HOOKS to the 6 RINGS.
         x = told(row("rail", 5, 1) + row("cloth", 11, 99));
         due("923 of 924", x.fullAt(923, 11), 5);
@@ -153,6 +168,18 @@ public final class ReckoningBoundaryTest extends Bench {
         x = told("rail 1 1 1 1;cloth 9 9 9;law:ring=hook or ring=hook+1;join 0 1;join 1 2;join 2 3;join 3 4;");
         due("all stay", x.mended(1), 0);
         due("though another is the first", x.mended(10), 1);
+        x = told("rail 5;cloth 4 5;law:1=1;");
+        due("HOOK 1 is too near to HOOK 0", x.mended(11), -1);
+        due("HOOK 2 isn't", x.mended(12), 1);
+        x = told("rail 1;cloth 9;law:ring=0;join 0 1;");
+        due("unhooked all the same: the first", x.mended(10), 0);
+        due("not HOOK 1", x.mended(11), -1);
+        due("one is unhooked", x.mended(1), 1);
+        x = told(LOOSE + "law:1=1;");
+        due("a large window", x.mended(0), 12);
+        tell(x, "rail 5;cloth 4;law:1=1;");
+        due("a small one behind it: one", x.mended(0), 1);
+        due("the first", x.mended(10), 0);
         due("a SAG of 0 can be", told("rail 5 5;cloth 5;").mended(0), 2);
         due("a SAG of -1 can't", told("rail 6 5;cloth 5;").mended(0), 1);
         due("a broken RING", told("rail 5 5;cloth 5;broken 1;").mended(0), 1);
@@ -350,6 +377,15 @@ public final class ReckoningBoundaryTest extends Bench {
         due("RING 6 is first", x.rounds(0, 10), 6);
         due("then 2", x.rounds(0, 11), 2);
         due("then 4", x.rounds(0, 12), 4);
+        // From RING 6 by 7 11 9 1, by 7 9 11 1 and by 1 7 9 11 it is put on by 15 in all.
+        HookOver y = told(LOOSE + "chair 0 10 1;");
+        y.join(0, 6);
+        fill(y, 0, 0, 7, 1, 11, 9);
+        due("four stops", y.rounds(0, 0), 4 * 11 + 15);
+        int[] order = {7, 11, 9, 1};
+        for (int k = 0; k < 4; k++) {
+            due("stop " + k, y.rounds(0, 10 + k), order[k]);
+        }
 
         says("ROUND, what 0: SECONDS, 10 + k: the k-th RING (NONE: not so many). -2: the TRAY, what (10 to 17); -6; -4: not 1"
             + " to 8; -3: one is no RING, two are alike.");
@@ -644,13 +680,61 @@ public final class ReckoningBoundaryTest extends Bench {
         due("none is joined", x.sure(2, 2), -1);
         seenBy(x, -1, 3);
         due("none is so", x.sure(2, 2), -8);
+        // One pair alone has a SAG of 0 at both GAPS: HOOKS 0 and 2 at RINGS 0 and 2.
+        x = told("rail 3 1;cloth 1 3;");
+        due("one way", seenBy(x, 0, 0), 1);
+        due("HOOK 0", x.sure(2, 0), 0);
+        due("HOOK 1 at none", x.sure(2, 1), -1);
+        due("HOOK 2", x.sure(2, 2), 2);
+        // A SAG of 1 at GAP 0, any at GAP 1: HOOK 0 at RING 0, HOOK 1 at RING 2.
+        x = told("rail 2 1;cloth 4;");
+        due("one way", seenBy(x, 1, -1), 1);
+        due("HOOK 0", x.sure(2, 0), 0);
+        due("HOOK 1", x.sure(2, 1), 2);
         x = told(row("rail", 11, 1) + row("cloth", 11, 1));
         seenBy(x, 0, 0, 0, 0, 0, 0, 0, 0, 0, 0, -1);
         due("the last of 12", x.sure(2, 11), 11);
         due("one behind", x.sure(2, 12), -2);
     }
 
+    private interface Asked {
+        long of(HookOver x);
+    }
+
+    /** TRAY 0: SECONDS of looks, 1: a ROUND, 2: what is seen, 3: DEEDS. */
+    private static HookOver busy() {
+        HookOver x = told("rail 5 6 7 8 9;cloth 7 8 9 9;law:ring<hook+2;chair 1 4 2;pleat 3;slip 3 9;join 1 2;join 3 4;");
+        fill(x, 0, 1, 7, 1, 9, 2, 2, 8);
+        fill(x, 1, 0, 5, 0, 3, 2);
+        fill(x, 2, 0, -1, -1, 3, -1, -1);
+        fill(x, 3, 2, 201, 12, 203, 39);
+        return x;
+    }
+
+    private static void oneBehindTheOther() {
+        says("Nothing is promised beyond the answers and state changes described above");
+        Asked[] asked = {x -> x.joinings(3), x -> x.full(), x -> x.mended(0), x -> x.mended(12), x -> x.evenest(0),
+            x -> x.evenest(1), x -> x.evenest(13), x -> x.fullAt(2, 3), x -> x.looks(0, 0), x -> x.looks(0, 1),
+            x -> x.looks(0, 2), x -> x.rounds(1, 0), x -> x.rounds(1, 11), x -> x.seen(2), x -> x.sure(2, 2),
+            x -> x.judge(3, 2), x -> x.judge(3, 3), x -> x.average(2, 0), x -> x.bestLook(), x -> x.pleats(1),
+            x -> x.out(1, 0), x -> x.undoing(10), x -> x.sags(4), x -> x.why(2, 3), x -> x.count(3)};
+        for (int i = 0; i < asked.length; i++) {
+            for (int j = 0; j < asked.length; j++) {
+                HookOver x = busy();
+                asked[i].of(x);
+                due("question " + j + " behind question " + i, asked[j].of(x), asked[j].of(busy()));
+            }
+        }
+        HookOver x = busy();
+        for (int i = 0; i < asked.length; i++) {
+            due("question " + i + " behind all ahead of it", asked[i].of(x), asked[i].of(busy()));
+        }
+        due("questions join nothing", x.sags(0), 2);
+        due("and are not to be UNDONE", x.count(5), 0);
+    }
+
     public static void main(String[] args) {
+        oneBehindTheOther();
         joinings();
         fullOnes();
         mended();

@@ -132,6 +132,10 @@ public final class TextBoundaryTest extends Bench {
         due("the first says 1", x.belongs(0, 0), 0);
         x = told("law:1=2;law:1=1;rail 1;cloth 1;");
         due("the first says 0", x.belongs(0, 1), 1);
+        x = told("law:1=1 and 1=1 or 1=1;law:1=2;rail 1;cloth 1;");
+        due("a longer one leaves nothing to a shorter one", x.belongs(0, 0), 0);
+        tell(x, "law:1=2 and 1=2;law:1=1;rail 1;cloth 1;");
+        due("nor in the next window", x.belongs(1, 0), 1);
 
         says("chair: REACH 0 to 9 (1), CLIMB 0 to 99 (5), HOOK 1 to 99 SECONDS (2)");
         x = new HookOver();
@@ -314,6 +318,18 @@ public final class TextBoundaryTest extends Bench {
         bad("pleat |:;", 2);
     }
 
+    /** A text of which only the first n bytes are read: its FAULT, at this place. */
+    private static void endsAt(String text, int n, int place) {
+        endsAt(text, n, place, 2);
+    }
+
+    private static void endsAt(String text, int n, int place, int kind) {
+        HookOver x = new HookOver();
+        put(x, text);
+        due("the first " + n + " bytes of '" + text + "'", x.window(n), -30 - kind);
+        due("the place in them", x.fault(1), place);
+    }
+
     private static void faultKinds() {
         says("FAULTS, the first along the text, of one TOKEN the least kind");
         bad("pleat |7;pleat 2,;", 3);
@@ -347,6 +363,18 @@ public final class TextBoundaryTest extends Bench {
         put(x, "pleat 2;pleat 3;");
         due("the text ends where n says", x.window(15), -32);
         due("its length", x.fault(1), 15);
+        endsAt("pleat 22;", 7, 7);
+        endsAt("pleat 2222;", 9, 6, 3);
+        endsAt("pleat 2222;", 7, 7);
+        endsAt("pleats 2;", 5, 5);
+        endsAt("pleat 2;", 4, 0);
+        for (String last : new String[] {"rail", "rail 99", "pleat 2 ", "join", "law:1", "law:rings", "chair 1 1 1\n"}) {
+            bad(times(" ", 900 - last.length()) + last, 2, 900 - (last.equals("join") ? 4 : 0));
+        }
+        bad(times(" ", 897) + "rai", 2, 897);
+        bad(times(" ", 893) + "pleat 7", 3, 899);
+        bad(times(" ", 895) + "1000;", 1, 895);
+        bad(times(" ", 899) + ",", 1, 899);
 
         says("3 an N out of its bounds (a HOOK, a RING that isn't told); the last N of a join that can't be.");
         bad(BOTH + "hook |999 mark 1;", 3);
