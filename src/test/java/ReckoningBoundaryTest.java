@@ -238,6 +238,23 @@ public final class ReckoningBoundaryTest extends Bench {
         due("SAGS of 0, so the later one isn't the evenest", x.evenest(1), 0);
         due("HOOK 2", x.evenest(12), 2);
 
+        // HOOKS 0 and 1 are too near to one another; 0 and 2 have a SAG of 5, 1 and 2 one of 4.
+        x = told("rail 2;cloth 1 6;");
+        due("two HOOKS need two RINGS", x.evenest(0), 4);
+        due("HOOK 0", x.evenest(10), -1);
+        due("HOOK 1", x.evenest(11), 0);
+        x = told(row("rail", 11, 99) + "cloth 50 99;");
+        due("12 RINGS, and HOOK 0 at none of them", x.evenest(10), -1);
+        due("HOOK 1", x.evenest(11), 0);
+        due("a SAG of 0", x.evenest(0), 0);
+        for (String empty : new String[] {"", "cloth 9;", "rail 9;", ALL_BROKEN, TIGHT}) {
+            x = told(LOOSE);
+            due("SAGS", x.evenest(1), 11 * 98 * 98);
+            tell(x, empty);
+            due("another window, no SAG: the greatest", x.evenest(0), 0);
+            due("another window, no SAG: squares", x.evenest(1), 0);
+        }
+
         says("EVENEST, what 0: the greatest SAG, 1: sum of squares, 10 + h: the RING of HOOK h (NONE). -2.");
         x = told(LOOSE);
         due("HOOK 0", x.evenest(10), 0);
