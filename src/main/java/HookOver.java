@@ -1175,46 +1175,44 @@ public final class HookOver {
                 at++;
             }
             start = at;
-            if (at >= length) {
-                kind = END;
-            } else if (isDigit(text[at])) {
-                scanNumber();
-            } else if (isLetter(text[at])) {
-                scanWord();
-            } else {
-                kind = isSign(text[at]) ? text[at] : BAD;
+            kind = END;
+            if (at < length) {
+                kind = kindOf(text[at]);
                 at++;
+            }
+            while (at < length && (kind == NUMBER || kind == STRANGE_WORD) && kindOf(text[at]) == kind) {
+                at++;
+            }
+            if (kind == NUMBER) {
+                readNumber();
+            } else if (kind == STRANGE_WORD) {
+                findWord();
             }
         }
 
-        private static boolean isDigit(byte b) {
-            return b >= '0' && b <= '9';
+        /** The kind of a TOKEN that begins with this byte: a word is strange until it is found. */
+        private static int kindOf(byte b) {
+            if (b >= '0' && b <= '9') {
+                return NUMBER;
+            }
+            if (b >= 'a' && b <= 'z') {
+                return STRANGE_WORD;
+            }
+            return b > 0 && SIGNS.indexOf((char) b) >= 0 ? b : BAD;
         }
 
-        private static boolean isLetter(byte b) {
-            return b >= 'a' && b <= 'z';
-        }
-
-        private static boolean isSign(byte b) {
-            return b > 0 && SIGNS.indexOf((char) b) >= 0;
-        }
-
-        private void scanNumber() {
+        private void readNumber() {
             value = 0;
-            while (at < length && isDigit(text[at])) {
-                if (at - start < MOST_DIGITS) {
-                    value = value * 10 + text[at] - '0';
-                }
-                at++;
+            if (at - start > MOST_DIGITS) {
+                kind = BAD;
+                return;
             }
-            kind = at - start <= MOST_DIGITS ? NUMBER : BAD;
+            for (int i = start; i < at; i++) {
+                value = value * 10 + text[i] - '0';
+            }
         }
 
-        private void scanWord() {
-            while (at < length && isLetter(text[at])) {
-                at++;
-            }
-            kind = STRANGE_WORD;
+        private void findWord() {
             int word = RAIL;
             int i = start;
             boolean alike = true;
@@ -1372,7 +1370,11 @@ public final class HookOver {
                 if (mayEnter(t, within)) {
                     t.step();
                     readPart(t, TRUTH, within + 1);
-                    t.pass(']');
+                    if (t.kind == ']') {
+                        t.step();
+                    } else {
+                        t.refuse();
+                    }
                 }
                 return;
             }
@@ -1392,7 +1394,11 @@ public final class HookOver {
                 if (mayEnter(t, within)) {
                     t.step();
                     readPart(t, SUM, within + 1);
-                    t.pass(')');
+                    if (t.kind == ')') {
+                        t.step();
+                    } else {
+                        t.refuse();
+                    }
                 }
             } else if (t.kind == Tokens.NUMBER) {
                 emit(FIRST_NUMBER + t.value);

@@ -76,6 +76,26 @@ public final class LanguageTest {
         }
     }
 
+    /** Rules 4, 8 and 11: what of the library is called, what calls itself, how deep the calls go. */
+    private static void calls() throws IOException {
+        CallGraph graph = new CallGraph(SOURCE);
+        List<String> listed = List.of("Arrays.fill(int[],int)", "Arrays.fill(long[],long)", "Integer.bitCount(int)",
+            "Math.abs(int)", "Math.floorMod(int,int)", "Math.max(int,int)", "Math.max(long,long)", "Math.min(int,int)",
+            "Math.min(long,long)", "Object.Object()", "String.charAt(int)", "String.indexOf(int)", "String.length()",
+            "System.arraycopy(java.lang.Object,int,java.lang.Object,int,int)");
+        for (String name : graph.outside()) {
+            check(listed.contains(name), "of the library " + name + " is called");
+        }
+        check(graph.methods().size() > 100, "only " + graph.methods().size() + " methods were found");
+        for (String name : graph.methods()) {
+            List<String> row = graph.longestFrom(name);
+            check(row.size() <= 8, row.size() + " calls deep: " + row);
+        }
+        for (String name : graph.recursive()) {
+            check(name.matches("Law\\.read(Part|Unit|Atom)\\(.*,int\\)"), name + " comes to call itself");
+        }
+    }
+
     private static void face() throws IOException {
         String doc = Files.readString(DOCUMENT, StandardCharsets.ISO_8859_1);
         String block = doc.substring(doc.indexOf("public final class HookOver {"), doc.indexOf("## Terms"));
@@ -135,6 +155,7 @@ public final class LanguageTest {
         String code = bare(source);
         words(code);
         methods(code);
+        calls();
         face();
         System.out.println(wrong == 0 ? "the source keeps to the rules" : wrong + " rules are broken");
         if (wrong != 0) {
